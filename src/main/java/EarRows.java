@@ -979,8 +979,10 @@ public final class EarRows {
         }
 
         void clearRow(int row) {
-            for (int place = 0; place < PLACES; place++) {
-                putEars(row, place, 0);
+            if (isRow(row)) {
+                for (int place = 0; place < PLACES; place++) {
+                    places[row * PLACES + place] = 0;
+                }
             }
         }
 
@@ -1168,9 +1170,9 @@ public final class EarRows {
             }
         }
 
-        /** -1 where there is none: no byte that begins a token is below 0. */
+        /** 0, which begins no token, where there is none. */
         int byteAt(int i) {
-            return isWithin(i, 0, size - 1) ? bytes[i] : -1;
+            return i >= 0 && i < size ? bytes[i] : 0;
         }
     }
 
@@ -1180,7 +1182,8 @@ public final class EarRows {
         static final int WORD = 1;
         static final int NUMBER = 2;
         static final int SEMICOLON = 3;
-        static final int NO_TOKEN = 4;
+        static final int BLANK = 4;
+        static final int NO_TOKEN = 5;
 
         static final int TOO_GREAT = 10000;
 
@@ -1200,22 +1203,40 @@ public final class EarRows {
         }
 
         void advance() {
-            while (next < tape.size && tape.byteAt(next) == ' ') {
+            while (next < tape.size && sortAt(next) == BLANK) {
                 next++;
             }
             start = next;
-            if (next >= tape.size) {
-                sort = END;
-            } else if (isLetterAt(next)) {
-                sort = WORD;
-                passLetters();
-            } else if (isDigitAt(next)) {
-                sort = NUMBER;
-                passDigits();
-            } else {
-                sort = tape.byteAt(next) == ';' ? SEMICOLON : NO_TOKEN;
+            sort = sortAt(start);
+            number = 0;
+            while (next < tape.size && sortAt(next) == sort && (next == start || isLong())) {
+                if (sort == NUMBER) {
+                    // A tape holds numbers of far more digits than an int.
+                    number = Math.min(10 * number + tape.byteAt(next) - '0', TOO_GREAT);
+                }
                 next++;
             }
+        }
+
+        private boolean isLong() {
+            return sort == WORD || sort == NUMBER;
+        }
+
+        private int sortAt(int i) {
+            if (i >= tape.size) {
+                return END;
+            }
+            int b = tape.byteAt(i);
+            if (b >= 'a' && b <= 'z') {
+                return WORD;
+            }
+            if (b >= '0' && b <= '9') {
+                return NUMBER;
+            }
+            if (b == ';') {
+                return SEMICOLON;
+            }
+            return b == ' ' ? BLANK : NO_TOKEN;
         }
 
         boolean isWord(String word) {
@@ -1228,29 +1249,6 @@ public final class EarRows {
                 }
             }
             return true;
-        }
-
-        private void passLetters() {
-            while (next < tape.size && isLetterAt(next)) {
-                next++;
-            }
-        }
-
-        private void passDigits() {
-            number = 0;
-            while (next < tape.size && isDigitAt(next)) {
-                // A tape holds numbers of far more digits than an int.
-                number = Math.min(10 * number + tape.byteAt(next) - '0', TOO_GREAT);
-                next++;
-            }
-        }
-
-        private boolean isLetterAt(int i) {
-            return isWithin(tape.byteAt(i), 'a', 'z');
-        }
-
-        private boolean isDigitAt(int i) {
-            return isWithin(tape.byteAt(i), '0', '9');
         }
     }
 
@@ -1270,19 +1268,14 @@ public final class EarRows {
         /** How many items; with a fault -1 less its place. */
         int readAll(Field field) {
             tokens.restart();
-            for (int items = 1; items <= TAPE_LENGTH; items++) {
+            int items = 0;
+            do {
                 if (!readItem(field)) {
                     return -1 - tokens.start;
                 }
-                if (tokens.sort == Tokens.END) {
-                    return items;
-                }
-                if (tokens.sort != Tokens.SEMICOLON) {
-                    return -1 - tokens.start;
-                }
-                tokens.advance();
-            }
-            return -1 - tokens.start;
+                items++;
+            } while (items < TAPE_LENGTH && passSemicolon());
+            return tokens.sort == Tokens.END ? items : -1 - tokens.start;
         }
 
         private boolean readItem(Field field) {
@@ -1403,6 +1396,14 @@ public final class EarRows {
                 case WIDOW: return "widow";
                 default: return "gleaner";
             }
+        }
+
+        private boolean passSemicolon() {
+            if (tokens.sort != Tokens.SEMICOLON) {
+                return false;
+            }
+            tokens.advance();
+            return true;
         }
 
         private boolean passWord(String word) {

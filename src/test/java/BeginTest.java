@@ -19,9 +19,9 @@ public final class BeginTest {
         EarRows x = Due.told("bell 0; row 3 ears 5 5; old at 6 place 4 back");
         d.is("begin(0): all of rows 0 to 3 is on its way, the least row", x.begin(0), 0);
         x.turn(0, 2);
-        d.is("begin(0): a quick one comes to row 3 at even places from all rows", x.begin(0), 0);
-        x.leave(3, 0, 0);
-        d.is("begin(0): from odd rows it is at place 1 of row 3", x.begin(0), 0);
+        d.is("begin(0): a quick one comes to place 1 of row 3 from even rows, to place 0 from odd ones", x.begin(0), 0);
+        x.leave(3, 1, 0);
+        d.is("begin(0): to place 0", x.begin(0), 1);
         EarRows y = Due.told("bell 136; row 5 ears 9; gleaner at 0");
         d.is("begin(0), in time", y.begin(0), 0);
         y.let(0, 190);
@@ -84,6 +84,8 @@ public final class BeginTest {
         d.is("rival(0): by drawing", y.rival(0), 1);
         d.is("rival(1): by drawing", y.rival(1), 0);
         d.is("rival(2)", y.rival(2), Due.NONE);
+        x.on(3, 90);
+        d.is("rival(3), behind another trial", x.rival(3), 2);
         d.is("rival(0) of one alone", Due.told("gleaner at 0").rival(0), Due.NONE);
     }
 
@@ -107,7 +109,9 @@ public final class BeginTest {
         d.is("may(2)", y.may(2), 0);
         y.minutes(1);
         d.is("may(1), with what they have", y.may(1), 2);
-        // The first has 1 of two alone; the quick one behind it gets 3 of 9, the old one the rest.
+        y.on(0, 200);
+        d.is("may(9), behind another trial", y.may(9), 0);
+        // The first takes 3 of 10, the old one the rest.
         EarRows z = Due.told("left 10; bell 0; quick at 7 place 7; old at 7 place 7; quick at 7 place 7");
         d.is("may(3): the third has nothing", z.may(3), 2);
     }
@@ -173,6 +177,7 @@ public final class BeginTest {
         d.is("ring(0, 6, 100), at minute 950", y.ring(0, 6, 100), 999);
         d.is("ring(0, 306, 100): 51 places", y.ring(0, 306, 100), 999);
         d.is("ring(0, 307, 100)", y.ring(0, 307, 100), 998);
+        d.is("ring(0, 9, 5), all ears that there are", Due.told("row 7 ears 9; sheaves 0; old at 7").ring(0, 9, 5), 4);
         // Geese are gone over rows 0 and 1 before a bell of 3.
         EarRows z = Due.told("left 10; gleaner at 0; geese 2");
         d.is("ring(0, 1, 9), with geese", z.ring(0, 1, 9), 1);

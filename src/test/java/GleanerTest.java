@@ -76,6 +76,8 @@ public final class GleanerTest {
         d.is("set(0, 6, 1)", x.set(0, 6, 1), 0);
         d.is("set(0, 6, 1)", x.set(0, 6, 1), 1);
         d.are("gleaner 0", of(x, 0), 3, 0, 7, 0, 0, 0, 1, 0, 0, 1);
+        d.is("set(0, 6, 0)", x.set(0, 6, 0), 1);
+        d.is("of(0, 6)", x.of(0, 6), 0);
         int[] wrong = {-1, 0, 4, 5, 7, 8, 9, 10};
         for (int what : wrong) {
             d.is("set(0, " + what + ", 1)", x.set(0, what, 1), Due.BEYOND);

@@ -51,6 +51,8 @@ public final class HouseTest {
             x.lay(g);
         }
         d.is("rich(), where nobody has anything: the least that is somebody's", x.rich(), 1);
+        x.set(0, 3, 0);
+        d.is("rich(), and house 0 is somebody's", x.rich(), 0);
         d.is("rich(), with nobody", new EarRows().rich(), Due.NONE);
         d.is("rich(), of house 4 alone", Due.told("old at 0 house 4").rich(), 4);
     }
@@ -69,6 +71,9 @@ public final class HouseTest {
         d.is("straw(100)", x.straw(100), 0b00010);
         d.is("straw(101)", x.straw(101), Due.BEYOND);
         d.is("straw(-1)", x.straw(-1), Due.BEYOND);
+        EarRows y = Due.told("bell 0; left 1; child at 0");
+        y.minutes(1);
+        d.is("straw(0), of one ear", y.straw(0), 1);
         d.is("straw(0), with nobody", new EarRows().straw(0), 0);
     }
 

@@ -37,6 +37,7 @@ public final class ImageTest {
         x.gleaner(0, 0, 0);
         d.is("undo(), to the latest", x.undo(), 4);
         d.are("all, behind undo() to the latest", Due.all(x), later);
+        anotherInItsPlace();
         EarRows y = new EarRows();
         d.is("undo()", y.undo(), Due.NONE);
         y.image();
@@ -51,6 +52,19 @@ public final class ImageTest {
         d.is("the tape stays", y.count(1), 6);
         d.is("text()", y.text(), 1);
         d.is("status(3), none is taken back", y.status(3), 1);
+    }
+
+    private static void anotherInItsPlace() {
+        EarRows x = Due.told("left 9; bell 0");
+        x.image();
+        x.gleaner(4, 7, 3);
+        x.minutes(4);
+        x.undo();
+        x.gleaner(1, 2, 0);
+        long[] due = {1, 2, 0, 0, 0, 0, 0, 0, 1, 1};
+        for (int what = 0; what < 10; what++) {
+            d.is("of(0, " + what + ") of another in its place", x.of(0, what), due[what]);
+        }
     }
 
     private static void change(EarRows x) {

@@ -138,6 +138,14 @@ public final class MinutesTest {
         d.is("rain()", y.rain(), 2);
         d.is("cut", y.of(0, 5), 23);
         d.is("bundle", y.of(0, 4), 23);
+        EarRows z = Due.told("bell 0; row 0 ears 5; row 7 ears 10; sheaves 10; old at 7; sly at 1");
+        z.minutes(10);
+        d.is("bundle and cut of 10", z.of(1, 5), 10);
+        d.is("rain()", z.rain(), 1 + 1 + 1);
+        d.is("ears(0, 0)", z.ears(0, 0), 4);
+        d.is("bundle", z.of(0, 4), 9);
+        d.is("bundle", z.of(1, 4), 9);
+        d.is("cut", z.of(1, 5), 9);
         d.is("rain() on nothing", new EarRows().rain(), 0);
     }
 

@@ -1,4 +1,5 @@
 import java.lang.reflect.Method;
+import java.lang.reflect.Modifier;
 import java.util.ArrayList;
 import java.util.Arrays;
 import java.util.Comparator;
@@ -7,7 +8,7 @@ import java.util.Random;
 
 /** Runs of calls, made by fixed seeds, that EarRows must answer as Plain does. */
 public final class ModelTest {
-    private static final int RUNS = 400;
+    private static final int RUNS = 200;
     private static final int CALLS = 512;
     private static final String[] NAMES = {"gleaner", "child", "quick", "old", "sly", "widow"};
     private static final String[] WORDS = {"row", "ears", "left", "at", "place", "house", "back", "bell",
@@ -111,7 +112,7 @@ public final class ModelTest {
             }
             case "feed": return of(random.nextInt(), within(1, 4));
             case "sheet": return of(within(0, 3), width(), within(0, seldom(2) ? 40 : 10));
-            case "write": return new Object[] {within(0, 3), within(0, seldom(2) ? 39 : 5), number()};
+            case "write": return new Object[] {within(0, 3), within(0, seldom(2) ? 12 : 3), number()};
             case "copy": return of(within(0, 3), upTo(6) - seldomOne(), within(0, 3), upTo(6) - seldomOne(),
                 seldom(15) ? Integer.MAX_VALUE : upTo(6) - seldomOne());
             case "lays": return of(within(0, 3), within(0, 7));
@@ -177,38 +178,73 @@ public final class ModelTest {
         }
     }
 
-    private void callText() throws ReflectiveOperationException {
-        Method[] feed = both("feed", int.class, int.class);
-        call(both("wipe")[0], both("wipe")[1]);
-        String text = fieldText();
-        for (int i = 0; i < text.length(); i++) {
-            call(feed[0], feed[1], (int) text.charAt(i) | random.nextInt() << 8, 1);
-        }
-        call(both("text")[0], both("text")[1]);
+    private void call(String name, Object... with) throws ReflectiveOperationException {
+        Class<?>[] types = Arrays.stream(with).map(w -> w instanceof Long ? long.class : int.class).toArray(Class<?>[]::new);
+        call(EarRows.class.getMethod(name, types), Plain.class.getMethod(name, types), with);
     }
 
-    private static Method[] both(String name, Class<?>... types) throws NoSuchMethodException {
-        return new Method[] {EarRows.class.getMethod(name, types), Plain.class.getMethod(name, types)};
+    private void callText() throws ReflectiveOperationException {
+        call("wipe");
+        String text = fieldText();
+        for (int i = 0, n; i < text.length(); i += n) {
+            n = Math.min(1 + upTo(3), text.length() - i);
+            int bytes = random.nextInt();
+            for (int k = 0; k < n; k++) {
+                bytes = bytes << 8 | text.charAt(i + k);
+            }
+            call("feed", bytes, n);
+        }
+        call("text");
+    }
+
+    /** Most runs have sheets and somebody in the field from the beginning; some begin late. */
+    private void begin() throws ReflectiveOperationException {
+        if (seldom(6)) {
+            return;
+        }
+        callText();
+        callText();
+        for (int s = 0; s < 4; s++) {
+            if (!seldom(4)) {
+                call("sheet", s, seldom(3) ? 8 : 16, upTo(12));
+            }
+        }
+        if (seldom(5)) {
+            for (int i = 0; i < 48; i++) {
+                call("minutes", 200);
+            }
+            call("minutes", 150 + upTo(50));
+        }
+    }
+
+    /** What takes away what the other calls ask for comes but seldom. */
+    private boolean isNow(String name) {
+        switch (name) {
+            case "day": return seldom(9);
+            case "undo": return seldom(6);
+            case "rake":
+            case "lay":
+            case "sheet": return seldom(3);
+            case "feed": return seldom(4);
+            default: return true;
+        }
     }
 
     private int run() throws ReflectiveOperationException {
-        Method[] face = EarRows.class.getDeclaredMethods();
-        face = Arrays.stream(face).filter(m -> java.lang.reflect.Modifier.isPublic(m.getModifiers()))
+        Method[] face = Arrays.stream(EarRows.class.getDeclaredMethods()).filter(m -> Modifier.isPublic(m.getModifiers()))
             .sorted(Comparator.comparing(Method::getName)).toArray(Method[]::new);
-        int late = random.nextInt(8);
+        begin();
         while (told.size() < CALLS) {
-            if (seldom(15)) {
+            if (seldom(25)) {
                 callText();
             }
-            if (late == 0 && seldom(4)) {
-                Method[] minutes = both("minutes", int.class);
-                call(minutes[0], minutes[1], 200);
+            if (seldom(10)) {
+                call("minutes", 1 + upTo(3));
             }
             Method mine = face[random.nextInt(face.length)];
-            if (mine.getName().equals("day") && !seldom(4) || mine.getName().equals("rake") && !seldom(3)) {
-                continue;
+            if (isNow(mine.getName())) {
+                call(mine.getName(), arguments(mine.getName()));
             }
-            call(mine, Plain.class.getMethod(mine.getName(), mine.getParameterTypes()), arguments(mine.getName()));
         }
         return wrong;
     }

@@ -203,6 +203,9 @@ public final class SheetTest {
         x.book(2, 3);
         x.write(2, 3, 5);
         d.is("read(2, 3): as many numbers as gleaners are read", x.read(2, 3), 0);
+        EarRows idle = Due.told("old at 0; old at 0");
+        idle.sheet(0, 8, 1);
+        d.is("read(0, 1): a second must come, though it has nothing", idle.read(0, 1), 2);
         EarRows nobody = new EarRows();
         nobody.sheet(0, 8, 0);
         d.is("read(0, 1), with nobody", nobody.read(0, 1), 0);

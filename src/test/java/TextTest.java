@@ -123,6 +123,14 @@ public final class TextTest {
         fault("left 1 left 2", 7);
         fault("lefts 1", 0);
         fault("lef 1", 0);
+        fault("xeft 1", 0);
+        fault("leftz 1", 0);
+        fault("lefta 1", 0);
+        fault("left`1", 4);
+        fault("left{1", 4);
+        fault("left/1", 4);
+        fault("left:1", 4);
+        fault("left 1 ; old at 0 backz", 18);
         fault("left\t1", 4);
         fault("left 1\n", 6);
         fault("left 1.", 6);
