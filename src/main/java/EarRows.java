@@ -700,12 +700,14 @@ public final class EarRows {
             return refuse(finding);
         }
         tryOn(n);
-        for (int g = 0; g < trial.size; g++) {
-            if (g >= sheets[s].size || sheets[s].numbers[g] != sheets[s].fit(trial.gleaners[g].bundle)) {
+        int both = Math.min(sheets[s].size, trial.size);
+        for (int g = 0; g < both; g++) {
+            if (sheets[s].numbers[g] != sheets[s].fit(trial.gleaners[g].bundle)) {
                 return 1 + g;
             }
         }
-        return 0;
+        // The whole sheet is the book: a number behind those of all GLEANERS is as wrong as one that lacks.
+        return sheets[s].size == trial.size ? 0 : 1 + both;
     }
 
     private int whyNoBook(int s, int n) {

@@ -197,6 +197,17 @@ public final class ModelTest {
         call("text");
     }
 
+    /** A book is read as it was written, on a sheet of as many numbers as gleaners, or of one more or less. */
+    private void callBook() throws ReflectiveOperationException {
+        int s = upTo(3);
+        int n = upTo(30);
+        call("sheet", s, seldom(2) ? 8 : 64, Math.max(0, plain.count(0) + (seldom(2) ? upTo(2) - 1 : 0)));
+        call("book", s, n);
+        call("read", s, n);
+        call("write", s, upTo(3), number());
+        call("read", s, n);
+    }
+
     /** Most runs have sheets and somebody in the field from the beginning; some begin late. */
     private void begin() throws ReflectiveOperationException {
         if (seldom(6)) {
@@ -240,6 +251,9 @@ public final class ModelTest {
             }
             if (seldom(10)) {
                 call("minutes", 1 + upTo(3));
+            }
+            if (seldom(60)) {
+                callBook();
             }
             Method mine = face[random.nextInt(face.length)];
             if (isNow(mine.getName())) {

@@ -632,13 +632,10 @@ public final class Plain {
         if (sheets[s] == null) return no(M);
         if (!in(n, 0, 200)) return no(B);
         if (late(n)) return no(ST);
-        int place = 0;
-        for (Man m : land.on(n).men) {
-            if (place == sheets[s].length) return 1 + place;
-            if (!sheets[s][place].equals(fit(bits[s], BigInteger.valueOf(m.bundle)))) return 1 + place;
-            place++;
-        }
-        return 0;
+        List<BigInteger> due = new ArrayList<>();
+        for (Man m : land.on(n).men) due.add(fit(bits[s], BigInteger.valueOf(m.bundle)));
+        int wrong = Arrays.mismatch(due.toArray(), sheets[s]);
+        return wrong < 0 ? 0 : 1 + wrong;
     }
 
     public int image() {

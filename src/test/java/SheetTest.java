@@ -199,16 +199,38 @@ public final class SheetTest {
         d.is("read(2, 3): the second isn't", x.read(2, 3), 2);
         x.sheet(2, 64, 0);
         d.is("read(2, 3): all must come", x.read(2, 3), 1);
-        x.sheet(2, 64, 9);
+        x.sheet(2, 64, 4);
         x.book(2, 3);
+        d.is("read(2, 3): a fourth number, though 0, is of nobody", x.read(2, 3), 4);
         x.write(2, 3, 5);
-        d.is("read(2, 3): as many numbers as gleaners are read", x.read(2, 3), 0);
+        d.is("read(2, 3): a fourth number is of nobody", x.read(2, 3), 4);
+        x.write(2, 2, -1);
+        d.is("read(2, 3): the third isn't, ahead of the fourth", x.read(2, 3), 3);
+        x.sheet(2, 64, 40);
+        x.book(2, 3);
+        d.is("read(2, 3): of many numbers too many the first", x.read(2, 3), 4);
+        x.gleaner(0, 7, 0);
+        d.is("read(2, 0): nobody has what is written", x.read(2, 0), 1);
+        x.book(2, 3);
+        d.is("read(2, 3): a fourth came", x.read(2, 3), 5);
         EarRows idle = Due.told("old at 0; old at 0");
         idle.sheet(0, 8, 1);
         d.is("read(0, 1): a second must come, though it has nothing", idle.read(0, 1), 2);
         EarRows nobody = new EarRows();
         nobody.sheet(0, 8, 0);
         d.is("read(0, 1), with nobody", nobody.read(0, 1), 0);
+        nobody.sheet(0, 16, 1);
+        d.is("read(0, 1), with nobody, a number", nobody.read(0, 1), 1);
+        nobody.sheet(0, 64, 40);
+        d.is("read(0, 0), with nobody, 40 numbers", nobody.read(0, 0), 1);
+        EarRows full = Due.told("left 9; bell 0; old at 0; old at 1; old at 2; old at 3; old at 4; old at 5; old at 6; old at 7");
+        full.gleaner(5, 0, 0);
+        full.sheet(0, 8, 9);
+        full.book(0, 4);
+        d.is("read(0, 4), nine", full.read(0, 4), 0);
+        full.sheet(1, 8, 10);
+        full.copy(0, 0, 1, 0, 9);
+        d.is("read(1, 4), a tenth number", full.read(1, 4), 10);
     }
 
     private static void refusedAsBook() {
