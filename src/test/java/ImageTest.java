@@ -19,8 +19,8 @@ public final class ImageTest {
 
     private static void imageAndUndo() {
         d.promise(45);
+        long[] before = Due.all(some());
         EarRows x = some();
-        long[] before = Due.all(x);
         d.is("image()", x.image(), 1);
         d.are("all, behind image()", Due.all(x), before);
         d.promise(46);
@@ -30,6 +30,14 @@ public final class ImageTest {
         change(x);
         d.is("undo(), what was kept stays", x.undo(), 3);
         d.are("all, behind undo() once more", Due.all(x), before);
+        toTheLatest();
+        anotherInItsPlace();
+        whatIsNotKept();
+    }
+
+    private static void toTheLatest() {
+        EarRows x = some();
+        x.image();
         change(x);
         d.is("image()", x.image(), 1);
         long[] later = Due.all(x);
@@ -37,7 +45,9 @@ public final class ImageTest {
         x.gleaner(0, 0, 0);
         d.is("undo(), to the latest", x.undo(), 4);
         d.are("all, behind undo() to the latest", Due.all(x), later);
-        anotherInItsPlace();
+    }
+
+    private static void whatIsNotKept() {
         EarRows y = new EarRows();
         d.is("undo()", y.undo(), Due.NONE);
         y.image();

@@ -169,6 +169,9 @@ public final class ModelTest {
     }
 
     private void call(Method mine, Method its, Object... with) throws ReflectiveOperationException {
+        if (told.size() >= CALLS) {
+            return;
+        }
         Object got = mine.invoke(x, with);
         Object want = its.invoke(plain, with);
         told.add(mine.getName() + Arrays.toString(with) + " " + got);
