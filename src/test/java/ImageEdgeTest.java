@@ -31,13 +31,14 @@ public final class ImageEdgeTest {
         e.edge(46, "It becomes what was kept latest (which stays)", "9 times gleaner(0, 0, 0)", "image() 1", "leave(0, 0, 5) 0", "undo() 9", "ears(0, 0) 0", "leave(0, 0, 6) 0",
             "undo() 9", "ears(0, 0) 0", "image() 1", "leave(7, 7, 1) 0", "image() 1", "leave(7, 7, 2) 1", "undo() 9", "ears(7, 7) 1");
         // One that is no more there has no share in anything.
-        String[] gone = {"told bell 0; row 0 ears 3; sly at 0 house 1", "minutes(1) 3", "image() 1", "told row 6 ears 90; old at 6 house 2; quick at 7 place 7",
-            "minutes(1) 90", "of(2, 7) 1", "undo() 1"};
+        String[] gone = {"told bell 0; row 0 ears 3; sly at 0 house 1", "minutes(2) 3", "image() 1", "told row 6 ears 90; sly at 7 place 7 house 2; old at 6 house 2",
+            "told gleaner at 3 place 5 back", "minutes(1) 94", "of(1, 5) 2", "of(1, 7) 1", "of(3, 2) 4", "undo() 1"};
         e.edge(46, "how many GLEANERS", Edges.with(gone, "count(0) 1", "count(2) 3", "count(3) 2", "now(4) 0", "straw(0) 1", "rich() 1", "shared(2) NONE", "over(2) NONE",
             "shared(0) NONE", "of(1, 0) BEYOND", "heap(0, 1, 1, 0) BEYOND", "meet(0, 1) BEYOND"));
         e.edge(46, "how many GLEANERS", Edges.with(gone, "most() 0", "may(0) 1", "rival(0) NONE", "rain() 0", "day() 0", "sheet(0, 8, 3) 3", "book(0, 0) 1", "read(0, 0) 2",
-            "gleaner(0, 1, 4) 1", "of(1, 4) 0", "of(1, 5) 0", "of(1, 7) 0", "of(1, 3) 4"));
-        e.edge(46, "how many GLEANERS", Edges.with(gone, "told old at 1", "of(1, 0) 3", "of(1, 4) 0", "of(1, 7) 0", "of(1, 2) 0", "undo() 1"));
+            "gleaner(0, 1, 4) 1", "of(1, 2) 0", "of(1, 4) 0", "of(1, 5) 0", "of(1, 7) 0", "of(1, 3) 4", "2 times gleaner(3, 2, 1)", "of(2, 4) 0", "of(3, 2) 0",
+            "of(3, 6) 0"));
+        e.edge(46, "how many GLEANERS", Edges.with(gone, "told old at 1", "of(1, 0) 3", "of(1, 4) 0", "of(1, 5) 0", "of(1, 7) 0", "of(1, 2) 0", "undo() 1"));
     }
 
     private static void tear() {

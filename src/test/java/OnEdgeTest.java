@@ -183,6 +183,7 @@ public final class OnEdgeTest {
         e.edge(30, "The latest BELL (0 to 999)", "5 times minutes(200)", "told left 9; gleaner at 0; bell 999", "ring(0, 5, 1) 999", "ring(0, 6, 1) NONE");
         e.edge(30, "The latest BELL (0 to 999)", "told left 9; gleaner at 0; geese 3", "ring(0, 1, 9) 2", "ring(0, 6, 9) 1", "ring(0, 10, 9) 1", "ring(0, 15, 9) 0",
             "ring(0, 16, 9) NONE");
+        e.edge(30, "is v (0 to 9999) or more", "told row 7 ears 9; sheaves 0; old at 7", "ring(0, 9, 5) 4", "ring(0, 10, 5) NONE", "ring(0, 9, 1) 0");
         e.edge(30, "STATE: MINUTE would be above 9999.", "49 times minutes(200)", "told left 9; gleaner at 7", "ring(0, 40, 199) 999", "ring(0, 41, 199) NONE",
             "ring(0, 0, 200) STATE", "ring(0, 9999, 200) STATE", "ring(0, 0, 201) BEYOND", "ring(0, -1, 200) BEYOND", "ring(1, 0, 200) BEYOND",
             "minutes(199) 40", "ring(0, 0, 1) STATE", "ring(0, 0, 0) BEYOND");

@@ -87,6 +87,8 @@ public final class TextEdgeTest {
         String letters = "WORDS (letters a to z)";
         fault(letters, "Left 1", 0);
         fault(letters, "leftT 1", 4);
+        fault(letters, "lefta 1", 0);
+        fault(letters, "leftz 1", 0);
         fault(letters, "`left 1", 0);
         fault(letters, "left{1", 4);
         fault(letters, "left@1", 4);
@@ -148,6 +150,8 @@ public final class TextEdgeTest {
         fault(FAULT, "left 1; x", 8);
         fault("another WORD", "lefts 1", 0);
         fault("another WORD", "lef 1", 0);
+        fault("another WORD", "xeft 1", 0);
+        fault("another WORD", "lefx 1", 0);
         fault("another WORD", "rows 1 ears 1", 0);
         fault("another WORD", "bel 1", 0);
         fault("another WORD", "goose 1", 0);
