@@ -1225,10 +1225,10 @@ public final class EarRows {
         }
 
         private int sortAt(int i) {
-            if (i >= tape.size) {
+            if (i < 0 || i >= tape.size) {
                 return END;
             }
-            int b = tape.byteAt(i);
+            int b = tape.bytes[i];
             if (b >= 'a' && b <= 'z') {
                 return WORD;
             }

@@ -209,7 +209,7 @@ final class Edges {
         }
     }
 
-    private static long ask(EarRows on, String call) {
+    static long ask(EarRows on, String call) {
         int open = call.indexOf('(');
         Method m = FACE.get(call.substring(0, open));
         String inside = call.substring(open + 1, call.length() - 1);
